@@ -1,0 +1,124 @@
+import java.io.IOException;
+import java.lang.reflect.Constructor;
+import java.lang.reflect.Field;
+import java.lang.reflect.Method;
+import java.lang.reflect.Modifier;
+import java.nio.file.Files;
+import java.nio.file.Path;
+import java.util.Arrays;
+import java.util.List;
+import java.util.Set;
+import java.util.TreeSet;
+import java.util.regex.Matcher;
+import java.util.regex.Pattern;
+
+/** The face of the document and those rules of LANGUAGE.md that can be seen from the text or from the class. */
+public final class LanguageTest {
+    private static final Check CHECK = new Check("LanguageTest");
+    private static final String[] FACE = {
+        "int feed(long,int)", "int canal()", "int set(int,int)", "int lawOf(int)", "int barge(int,int,int,int)",
+        "int of(int,int)", "int does(int,int)", "int mind(int,int,int)", "int fill(int,int)", "int bring(int,int)",
+        "int send(int,int)", "int noise(int,int)", "int lock(int,int)", "int hours(int)", "int seed(int)", "int hour()",
+        "int spoilt(int)", "int state(int)", "int freight(int,int)", "int lands(int)", "int meets(int,int)", "int quiet()",
+        "int cargo(int)", "int stillFor(int,int)", "int kindFor(int,int)", "int loadFor(int,int,int)",
+        "int hushedFor(int,int)", "int holdFor(int)", "int fits(int,int,int)", "long odds(int,int,int)", "long hope(int,int)",
+        "int prove(int,int)", "int row(int,int)", "int alterRow(int,int,int)", "int judge(int)", "int minds(int,int,int,int)",
+        "int sheet(int,int,int)", "int put(int,int,int)", "int item(int,int,int)", "int shelf(int,int,int)",
+        "int taken(int,int)", "int act(int,int,int)", "int trace(int)", "int many(int)", "int keep()", "int again()"};
+
+    public static void main(String[] args) throws IOException {
+        face();
+        membersInside();
+        words();
+        CHECK.end();
+    }
+
+    private static String told(Method m) {
+        StringBuilder s = new StringBuilder(m.getReturnType().getName()).append(' ').append(m.getName()).append('(');
+        for (Class<?> type : m.getParameterTypes()) {
+            s.append(s.charAt(s.length() - 1) == '(' ? "" : ",").append(type.getName());
+        }
+        return s.append(')').toString();
+    }
+
+    private static void face() {
+        int kind = SilenceCanal.class.getModifiers();
+        CHECK.holds("public and final", Modifier.isPublic(kind) && Modifier.isFinal(kind));
+        Set<String> names = new TreeSet<>();
+        Set<String> publics = new TreeSet<>();
+        for (Method m : SilenceCanal.class.getDeclaredMethods()) {
+            if (Modifier.isPublic(m.getModifiers())) {
+                publics.add(told(m));
+                names.add(m.getName());
+            }
+        }
+        CHECK.holds("the methods of the document and no others: " + publics, publics.equals(new TreeSet<>(List.of(FACE))));
+        for (Method m : SilenceCanal.class.getDeclaredMethods()) {
+            boolean isPublic = Modifier.isPublic(m.getModifiers());
+            CHECK.holds(m + " public or private", isPublic || Modifier.isPrivate(m.getModifiers()));
+            CHECK.holds(m + " bears no public name", isPublic || !names.contains(m.getName()));
+        }
+        Set<String> constants = new TreeSet<>();
+        for (Field f : SilenceCanal.class.getDeclaredFields()) {
+            boolean isPublic = Modifier.isPublic(f.getModifiers());
+            CHECK.holds(f + " public or private", isPublic || Modifier.isPrivate(f.getModifiers()));
+            if (isPublic) {
+                constants.add(f.getName());
+            }
+        }
+        CHECK.holds("the constants", constants.equals(new TreeSet<>(List.of("BAD", "FULL", "NONE"))));
+        Constructor<?>[] made = SilenceCanal.class.getDeclaredConstructors();
+        CHECK.holds("one public constructor", made.length == 1 && Modifier.isPublic(made[0].getModifiers())
+            && made[0].getParameterCount() == 0);
+        for (Class<?> inside : SilenceCanal.class.getDeclaredClasses()) {
+            for (Method m : inside.getDeclaredMethods()) {
+                CHECK.holds(m + " bears no public name", !names.contains(m.getName()));
+            }
+        }
+    }
+
+    private static void membersInside() {
+        Class<?>[] inside = SilenceCanal.class.getDeclaredClasses();
+        CHECK.holds("few classes", inside.length <= 11);
+        for (Class<?> c : inside) {
+            CHECK.holds(c + " static, not public", Modifier.isStatic(c.getModifiers())
+                && !Modifier.isPublic(c.getModifiers()) && !Modifier.isProtected(c.getModifiers()));
+        }
+        for (Class<?> c : inside) {
+            look(c);
+        }
+        look(SilenceCanal.class);
+    }
+
+    private static void look(Class<?> c) {
+        int fields = 0;
+        for (Field f : c.getDeclaredFields()) {
+            boolean isStatic = Modifier.isStatic(f.getModifiers());
+            CHECK.holds(f + " static only if final", !isStatic || Modifier.isFinal(f.getModifiers()));
+            fields += isStatic ? 0 : 1;
+        }
+        CHECK.holds(c + " some twenty fields", fields <= 20);
+        for (Method m : c.getDeclaredMethods()) {
+            CHECK.holds(m + " at most seven parameters", m.getParameterCount() <= 7);
+            CHECK.holds(m + " not of the compiler", !m.isSynthetic());
+        }
+    }
+
+    private static void words() throws IOException {
+        String source = Files.readString(Path.of("src/main/java/SilenceCanal.java"));
+        String code = source.replaceAll("(?s)/\\*.*?\\*/", "").replaceAll("//[^\n]*", "");
+        String[] banned = {"throw", "throws", "try", "catch", "synchronized", "assert", "package", "protected", "default\\s+int",
+            "static\\s*\\{", "->", "::", "\\w+Exact", "Random", "System\\.(?!arraycopy)", "Thread", "hashCode", "toString", "Object",
+            "import (?!java\\.util\\.Arrays;)", "values\\(\\)", "var"};
+        for (String word : banned) {
+            boolean isWord = Character.isLetter(word.charAt(0)) || word.charAt(0) == '\\' && word.charAt(1) == 'w';
+            Matcher m = Pattern.compile(isWord ? "\\b" + word + (word.endsWith(")") ? "" : "\\b") : word).matcher(code);
+            CHECK.holds("no " + word, !m.find());
+        }
+        for (char c : source.toCharArray()) {
+            CHECK.holds("plain signs", c == '\n' || c >= ' ' && c < 127);
+        }
+        int longest = Arrays.stream(source.split("\n    (    )?}\n")).mapToInt(part -> part.split("\n").length).max().getAsInt();
+        CHECK.holds("methods stay short: " + longest, longest <= 70);
+    }
+}
