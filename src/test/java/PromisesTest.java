@@ -145,6 +145,8 @@ public final class PromisesTest {
         due(3, "the end behind blanks", answerTo("barge  "), -107);
         due(3, "no mark at the end", answerTo("echo 3"), -106);
         due(3, "names in one", answerTo("bargeat 0 for 9;"), -100);
+        due(3, "another first letter", answerTo("large at 0 for 9;"), -100);
+        due(3, "z is a letter", answerTo("echo 3;echoz 3;"), -107);
         due(3, "at missing", answerTo("barge 0 for 9;"), -106);
         due(3, "a lock too high", answerTo("barge at 10 for 9;"), -109);
         due(3, "bound too high", answerTo("barge at 0 for 10;"), -115);
@@ -201,6 +203,10 @@ public final class PromisesTest {
         due(3, "z stays", x.seed(1), 77);
         due(3, "what is kept stays", x.again(), 1);
         due(3, "as it was kept", x.state(0), 1);
+        x = new SilenceCanal();
+        x.seed(5);
+        x.canal();
+        due(3, "z stays, though nothing was tried", x.seed(1), 5);
     }
 
     private static void laws() {
@@ -359,6 +365,9 @@ public final class PromisesTest {
         due(15, "at 5", x.lock(5, 1), 4);
         x = told("mute at 0 for 1 load 9;noise 1 is 5;");
         due(15, "half of 5, cut", x.hours(1), 7);
+        x = told("barge at 0 for 3;");
+        x.hours(50);
+        due(15, "all hours count, also when all have landed", x.state(0), 50);
     }
 
     private static void hoursOfMeetings() {
@@ -460,6 +469,15 @@ public final class PromisesTest {
         y.fill(0, 40);
         y.set(3, 0);
         due(18, "no laughs", y.spoilt(30), 0);
+        // Spilling alone is no spoiling: what is compared is the cargo behind one hour.
+        y = told("barge at 2 for 0 load 40;barge at 3 for 0 load 40;noise 0 is 9;noise 1 is 9;laugh 0;");
+        due(18, "no laughs, but spilling", y.spoilt(30), 0);
+        y.set(3, 99);
+        due(18, "laughs and spilling", y.spoilt(5), 5);
+        y = told("barge at 1 for 0 load 1;noise 0 is 9;laugh 99;");
+        due(18, "it would be lost anyway", y.spoilt(30), 0);
+        y.noise(0, 0);
+        due(18, "lock 0 is still", y.spoilt(5), 5);
     }
 
     private static void states() {
@@ -474,6 +492,11 @@ public final class PromisesTest {
         x.noise(5, 6);
         x.hours(1);
         due(19, "loudest", x.state(5), 5);
+        x = told("barge at 1 for 0;noise 0 is 1;");
+        x.hours(1);
+        due(19, "lost at lock 0", x.state(2), 1);
+        due(19, "loudest by 1", x.state(5), 0);
+        due(45, "locks with a loss", x.many(3), 1);
         due(19, "no what", x.state(6), -1);
         due(19, "no what", x.state(-1), -1);
     }
@@ -483,6 +506,7 @@ public final class PromisesTest {
         due(20, "now", x.freight(0, 0), 40);
         due(20, "behind 3", x.freight(0, 3), 34);
         due(20, "behind 60", x.freight(0, 60), 22);
+        due(20, "behind 2, from now again", x.freight(0, 2), 36);
         due(20, "behind 61", x.freight(0, 61), -1);
         due(20, "behind -1", x.freight(0, -1), -1);
         due(20, "no such one", x.freight(3, 0), -1);
@@ -521,6 +545,9 @@ public final class PromisesTest {
         due(25, "no such one", x.stillFor(1, 5), -1);
         x.noise(1, 0);
         due(25, "no gain", x.stillFor(0, 1), -3);
+        SilenceCanal zero = told("barge at 2 for 0 load 50;noise 1 is 0;noise 0 is 1;");
+        due(25, "lock 0, by 1", zero.stillFor(0, 2), 0);
+        due(28, "lock 0, by 1", zero.hushedFor(2, 50), 1);
         due(26, "the bishop: noise 0, 6 gains 2, loses 1", x.kindFor(0, 1), 3);
         x.set(1, 0);
         x.noise(1, 1);
@@ -534,6 +561,7 @@ public final class PromisesTest {
         SilenceCanal y = told("barge at 0 for 5 load 50;noise 2 is 6;");
         due(27, "14 less on the way", y.loadFor(0, 5, 40), 54);
         due(27, "nothing is enough for nothing", y.loadFor(0, 5, 0), 0);
+        due(27, "one hour", y.loadFor(0, 1, 40), 42);
         due(27, "at most 85", y.loadFor(0, 30, 85), 99);
         due(27, "with none", y.loadFor(0, 30, 86), -3);
         due(27, "v too high", y.loadFor(0, 5, 100), -1);
@@ -548,6 +576,8 @@ public final class PromisesTest {
         due(28, "three", y.hushedFor(5, 46), 14);
         due(28, "all on the way", y.hushedFor(5, 50), 62);
         due(28, "by no set", y.hushedFor(5, 51), -3);
+        due(28, "one hour", y.hushedFor(1, 50), 2);
+        due(28, "nothing is there", y.hushedFor(1, 0), 0);
         due(28, "by no set", y.hushedFor(20, 999), -3);
         due(28, "no hours", y.hushedFor(0, 5), -1);
         due(28, "too many", y.hushedFor(21, 5), -1);
@@ -564,6 +594,7 @@ public final class PromisesTest {
         due(29, "too many", z.holdFor(31), -1);
         SilenceCanal held = told("barge at 1 for 2;barge at 2 for 9 other;noise 2 is 0;noise 3 is 0;echo 4;");
         due(29, "0 held: no meeting at 2; 1 held: it is met all the same", held.holdFor(1), 0);
+        due(20, "none is held any more", held.freight(1, 1), 46);
     }
 
     private static void fitting() {
@@ -672,6 +703,7 @@ public final class PromisesTest {
         due(33, "ten", x.prove(1, 10), 10);
         due(34, "the last", x.row(9, 0), 0);
         due(33, "fewer", x.prove(1, 1), 1);
+        due(34, "from now again", x.row(0, 0), 8);
         due(34, "no second", x.row(1, 0), -9);
         x.hours(1);
         due(36, "from how it is now", x.judge(1), 1);
@@ -700,6 +732,7 @@ public final class PromisesTest {
         due(37, "no such one, for none", x.minds(0, 0, 3, 0), -1);
         due(37, "nine", x.minds(0, 0, 0, 9), -1);
         due(37, "below", x.minds(0, 0, 0, -1), -1);
+        due(37, "below", x.minds(0, 0, 0, -2), -1);
         due(37, "no sheet", x.minds(4, 0, 0, 1), -1);
         due(37, "missing", x.minds(1, 9, 0, 1), -11);
         x.sheet(1, 1, 1);
