@@ -39,16 +39,11 @@ public final class PromisesTest {
     }
 
     private static SilenceCanal told(String text) {
-        SilenceCanal x = new SilenceCanal();
-        Check.feedText(x, text);
-        x.canal();
-        return x;
+        return Check.told(text);
     }
 
     private static int answerTo(String text) {
-        SilenceCanal x = new SilenceCanal();
-        Check.feedText(x, text);
-        return x.canal();
+        return Check.answerTo(text);
     }
 
     private static void newObject() {
