@@ -605,6 +605,9 @@ public final class SentencesTest {
         x.sheet(0, 0, 0);
         due("none of an empty one", x.minds(0, 0, 0, 0), 0);
         due("one of an empty one", x.minds(0, 0, 0, 1), -12);
+        due("none of an empty one, for the last", x.minds(0, 0, 7, 0), 0);
+        x.sheet(0, 0, 1);
+        due("the only one, for the last", x.minds(0, 0, 7, 1), 1);
     }
 
     private static void promise38Sheet() {

@@ -142,6 +142,8 @@ final class TriedTerms {
         due("nothing without barges", new SilenceCanal().hushedFor(20, 0), 0);
         due("something without barges", new SilenceCanal().hushedFor(20, 1), -3);
         due("all ten", told("barge at 0 for 9;barge at 1 for 0;").hushedFor(20, 100), 1023);
+        due("downwards: one on its way", told("barge at 3 for 0;noise 1 is 9;").hushedFor(20, 46), 2);
+        due("downwards: all on its way", told("barge at 3 for 0;").hushedFor(20, 50), 7);
         due("it gains with stillness", told("lover at 0 for 1 load 50;noise 1 is 1;").hushedFor(1, 51), 2);
         due("held to 99", told("lover at 0 for 1 load 99;noise 1 is 1;").hushedFor(1, 100), -3);
     }
@@ -215,6 +217,11 @@ final class TriedTerms {
         x.noise(0, 4);
         x.hours(1);
         due("of 0 and 9 the least", x.state(5), 0);
+        SilenceCanal y = told("barge at 1 for 3;noise 2 is 9;noise 3 is 5;");
+        y.hours(1);
+        y.noise(2, 0);
+        y.hours(1);
+        due("9 at lock 2, 5 at lock 3, whatever their noise is now", y.state(5), 2);
     }
 
     private void fits() {
