@@ -7,7 +7,9 @@ import java.nio.file.Files;
 import java.nio.file.Path;
 import java.util.Arrays;
 import java.util.List;
+import java.util.Map;
 import java.util.Set;
+import java.util.TreeMap;
 import java.util.TreeSet;
 import java.util.regex.Matcher;
 import java.util.regex.Pattern;
@@ -30,6 +32,8 @@ public final class LanguageTest {
         face();
         membersInside();
         words();
+        madeOnce();
+        callsDeep();
         CHECK.end();
     }
 
@@ -104,9 +108,71 @@ public final class LanguageTest {
         }
     }
 
+    private static String source() throws IOException {
+        return Files.readString(Path.of("src/main/java/SilenceCanal.java"));
+    }
+
+    private static String code() throws IOException {
+        return source().replaceAll("(?s)/\\*.*?\\*/", "").replaceAll("//[^\n]*", "");
+    }
+
+    /** All calls of a run live in one room: what is made is made with the object, and by no call. */
+    private static void madeOnce() throws IOException {
+        String inConstructor = code().replaceAll("(?s)(public SilenceCanal\\(\\) \\{.*?\n    \\}\n).*", "$1")
+            .replaceAll("(?s).*public SilenceCanal", "");
+        for (String line : code().split("\n")) {
+            boolean makes = Pattern.compile("\\bnew\\b|\\.clone\\(|Arrays\\.copy|StringBuilder|substring").matcher(line).find();
+            boolean isField = line.matches("\\s+(private )?final [\\w\\[\\]]+ \\w+ = new [\\w.\\[\\]* ()]+;");
+            CHECK.holds("made with the object: " + line, !makes || isField || inConstructor.contains(line));
+        }
+    }
+
+    /** The methods that each method calls, by their names; those of the classes inside bear names of their own. */
+    private static Map<String, Set<String>> callsOfMethods() throws IOException {
+        Map<String, String> bodies = new TreeMap<>();
+        Matcher m = Pattern.compile("(?ms)^( +)(?:(?:public|private|static|final) )*[\\w\\[\\]]+ (\\w+)\\([^)]*\\) \\{\n(.*?)^\\1\\}")
+            .matcher(code());
+        while (m.find()) {
+            bodies.merge(m.group(2), m.group(3), String::concat);
+        }
+        Map<String, Set<String>> calls = new TreeMap<>();
+        for (String name : bodies.keySet()) {
+            Set<String> called = new TreeSet<>();
+            Matcher call = Pattern.compile("\\b(\\w+)\\(").matcher(bodies.get(name));
+            while (call.find()) {
+                if (bodies.containsKey(call.group(1)) && !call.group(1).equals(name)) {
+                    called.add(call.group(1));
+                }
+            }
+            calls.put(name, called);
+        }
+        return calls;
+    }
+
+    private static int depthOf(String name, Map<String, Set<String>> calls, int open) {
+        if (open > 20) {
+            return open;
+        }
+        int deepest = 0;
+        for (String called : calls.get(name)) {
+            deepest = Math.max(deepest, depthOf(called, calls, open + 1));
+        }
+        return 1 + deepest;
+    }
+
+    private static void callsDeep() throws IOException {
+        Map<String, Set<String>> calls = callsOfMethods();
+        for (String line : FACE) {
+            String name = line.substring(line.indexOf(' ') + 1, line.indexOf('('));
+            CHECK.holds(name + " is found", calls.containsKey(name));
+            int depth = calls.containsKey(name) ? depthOf(name, calls, 0) : 0;
+            CHECK.holds(name + " goes at most eight deep: " + depth, depth <= 8);
+        }
+    }
+
     private static void words() throws IOException {
-        String source = Files.readString(Path.of("src/main/java/SilenceCanal.java"));
-        String code = source.replaceAll("(?s)/\\*.*?\\*/", "").replaceAll("//[^\n]*", "");
+        String source = source();
+        String code = code();
         String[] banned = {"throw", "throws", "try", "catch", "synchronized", "assert", "package", "protected", "default\\s+int",
             "static\\s*\\{", "->", "::", "\\w+Exact", "Random", "System\\.(?!arraycopy)", "Thread", "hashCode", "toString", "Object",
             "import (?!java\\.util\\.Arrays;)", "values\\(\\)", "var"};

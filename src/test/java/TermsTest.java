@@ -331,6 +331,20 @@ public final class TermsTest {
             spillOf(x, 5, 5, 0, 0);
             x.hours(1);
         }
+        lateHours();
+    }
+
+    /** HOUR has no last: what hangs on it goes on so behind the 60 that one call lets pass. */
+    private static void lateHours() {
+        SilenceCanal x = told("dealer at 5 for 5;miller at 5 for 5;noise 5 is 9;");
+        for (int hour = 60; hour <= 24000; hour += 60) {
+            x.hours(60);
+        }
+        for (int hour = 24000; hour < 24006; hour++) {
+            due("a dealer spills in hour " + hour, x.does(0, 1), hour % 3 == 0 ? 1018 : 1000);
+            due("a miller goes in hour " + hour, x.does(1, 0), hour % 2 == 0 ? 1002 : 1001);
+            x.hours(1);
+        }
     }
 
     private static void hourOfThoseThatHaveNotLanded() {
@@ -407,6 +421,11 @@ public final class TermsTest {
         say("Terms 1", "(2) Then (also if it has LANDED by that)");
         SilenceCanal x = told("barge at 1 for 2;barge at 2 for 9 other;noise 2 is 0;noise 3 is 0;");
         due("0 lands at 2 and meets 1 there", x.hours(1), 94);
+        SilenceCanal by = told("lover at 0 for 9;barge at 1 for 0 other;");
+        due("behind all of (1): 0 only goes by 1", by.hours(1), 96);
+        due("at 1 it has spilt 1, and there's no echo", by.lock(1, 1), 1);
+        due("at 2 it has spilt 1", by.lock(2, 1), 1);
+        due("1 has spilt 2", by.lock(0, 1), 2);
         due("but one that had landed before doesn't go through (2)", told("barge at 2 for 2;barge at 2 for 9 other;noise 3 is 0;").hours(1), 100);
         say("Terms 1", "of each other one AT its LOCK, by numbers, that is of the other SORT and hasn't LANDED");
         due("of its own sort", told("barge at 1 for 3;barge at 3 for 1;noise 2 is 0;").hours(1), 100);

@@ -107,6 +107,10 @@ final class TriedTerms {
         x.bring(0, 3);
         due("in hour 1 the dealer spills nothing", x.kindFor(0, 1), 5);
         due("it is what it was", x.of(0, 0), 0);
+        // Lover, bishop, miller and dealer come to 2, where 1 waits; barge and mute to 1, losing nothing.
+        String waits = "barge at 2 for 9;noise 1 is 0;noise 2 is 0;echo 9;";
+        due("of its own sort it goes by 1 in peace", told("barge at 0 for 9;" + waits).kindFor(0, 1), 3);
+        due("it stays of the other sort", told("barge at 0 for 9 other;" + waits).kindFor(0, 1), 0);
     }
 
     private void loadFor() {
@@ -170,8 +174,17 @@ final class TriedTerms {
         // 0 is held: it goes through no (2) of its own, but the other comes and meets it.
         SilenceCanal z = told("barge at 2 for 3;barge at 1 for 9 other;noise 2 is 0;noise 3 is 0;");
         due("held it would be met, as it is it isn't", z.holdFor(1), -3);
+        heldAmongOthers();
         heldNoLonger();
         due("nothing is held by that", z.hours(1), 100);
+    }
+
+    /** (1) and (2) fall away for the held one alone: those of the others go on, and may be with it. */
+    private void heldAmongOthers() {
+        // As it is 48 + 48; 0 held is met by 1: 47 + 45; 1 held: 48 + 50.
+        due("the others' (2) is with the held one too", told("barge at 1 for 9;barge at 0 for 9 other;").holdFor(1), 1);
+        // As it is both meet at 2: 45 + 45; whichever is held, they part without an echo: 50 + 48.
+        due("the held one's own (2) falls away", told("barge at 1 for 9;barge at 1 for 9 other;").holdFor(1), 0);
     }
 
     /** What was held back in one try is not held in the next. */
