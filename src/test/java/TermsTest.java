@@ -345,6 +345,11 @@ public final class TermsTest {
             due("a miller goes in hour " + hour, x.does(1, 0), hour % 2 == 0 ? 1002 : 1001);
             x.hours(1);
         }
+        SilenceCanal y = told("barge at 1 for 1 other;barge at 3 for 3;");
+        y.hours(60);
+        y.send(0, 3);
+        y.send(1, 1);
+        due("noise and echo are what they were", y.hours(1), 100 - 2 * 2 - 2 * 3);
     }
 
     private static void hourOfThoseThatHaveNotLanded() {
